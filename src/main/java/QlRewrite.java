@@ -47,6 +47,7 @@ public final class QlRewrite {
     private final Facts facts;
     private final Question[] asked;
     private int questions;
+    /** Without answers; broken() asks it for one axiom after another. */
     private final Question forbidden;
     private final Rewriter rewriter;
     private final Finder finder;
@@ -141,7 +142,6 @@ public final class QlRewrite {
         }
         q.own.add(atomName, first, second);
         q.rewritten = false;
-        q.searched = false;
         return q.own.size;
     }
 
@@ -278,8 +278,7 @@ public final class QlRewrite {
     private int leastBreaking() {
         for (int i = 0; i < axioms.size; i++) {
             if (axioms.forbids(i)) {
-                forbidden.begin(0);
-                axioms.askForbidden(i, forbidden.own);
+                axioms.fillForbidden(i, forbidden.own);
                 rewriter.rewrite(forbidden);
                 if (forbidden.large) {
                     return LARGE;
@@ -313,8 +312,8 @@ public final class QlRewrite {
             return kinds[i] == SORT_BAN || kinds[i] == WAY_BAN;
         }
 
-        /** Adds the atoms that nothing may meet by axiom i. */
-        void askForbidden(int i, Form form) {
+        /** Fills a form with the two atoms that axiom i forbids together. */
+        void fillForbidden(int i, Form form) {
             int x = UNNAMED;
             int y = UNNAMED + 1;
             form.size = 2;
@@ -671,7 +670,6 @@ public final class QlRewrite {
             answers = answersOfIt;
             own.size = 0;
             rewritten = false;
-            searched = false;
         }
 
         int variable(int told) {
@@ -725,6 +723,7 @@ public final class QlRewrite {
                 uniteAtoms(q);
             }
             q.rewritten = true;
+            // What was found belongs to the forms that were before.
             q.searched = false;
         }
 
@@ -818,7 +817,6 @@ public final class QlRewrite {
             for (int a = 0; a < THINGS; a++) {
                 if (Facts.isIn(a, firsts)) {
                     things[0] = a;
-                    things[1] = NOTHING;
                     int seconds = apart ? fitting(1) : 1 << (form.joined ? a : 0);
                     for (int b = 0; b < THINGS; b++) {
                         int number = FIRST_THING * a + b;

@@ -10,6 +10,7 @@ public final class AnswersTest {
         answersInNoAtom();
         anyAtEachPlace();
         joins();
+        loops();
         firstFormFinds();
         followsByMeeting();
         changesOfFacts();
@@ -165,6 +166,26 @@ public final class AnswersTest {
         x.fact(true, 4, 9, 7);
         answers(x, 1, 0);
         CHECK.due("a circle of three", x.why(1, 0), 0);
+    }
+
+    private static void loops() {
+        QlRewrite x = new QlRewrite();
+        x.question(1);
+        x.atom(0, true, 7, 0, 0);
+        x.question(0);
+        x.atom(1, true, 7, 3, 3);
+        for (int i = 0; i < 11; i++) {
+            x.fact(true, 7, i, i + 1);
+        }
+        answers(x, 0);
+        answers(x, 1);
+        x.fact(true, 7, 0, 0);
+        x.fact(true, 7, 11, 11);
+        answers(x, 0, 0, 16 * 11);
+        answers(x, 1, 0);
+        x.forget(true, 7, 0, 0);
+        answers(x, 0, 16 * 11);
+        CHECK.due("0 still leads to 1", x.forget(true, 7, 0, 1), 1);
     }
 
     private static void firstFormFinds() {

@@ -9,6 +9,7 @@ public final class BrokenTest {
         byAxioms();
         leastOne();
         tooLarge();
+        sixteenAxioms();
         questionsStay();
         CHECK.end();
     }
@@ -74,6 +75,12 @@ public final class BrokenTest {
                 CHECK.due("joined this way", x.broken(), 0);
             }
         }
+        QlRewrite y = new QlRewrite();
+        y.axiom(3, 2, 4);
+        y.fact(true, 1, 1, 2);
+        y.fact(true, 2, 1, 3);
+        y.fact(true, 2, 3, 2);
+        CHECK.due("no two are joined by both", y.broken(), QlRewrite.BAD);
         QlRewrite x = new QlRewrite();
         x.axiom(3, 0, 1);
         x.fact(true, 0, 1, 2);
@@ -155,6 +162,17 @@ public final class BrokenTest {
         CHECK.due("still", x.broken(), 0);
         x.forget(true, 5, 0, 1);
         CHECK.due("too large, though it would break", x.broken(), QlRewrite.LARGE);
+    }
+
+    private static void sixteenAxioms() {
+        QlRewrite x = new QlRewrite();
+        for (int i = 0; i < 15; i++) {
+            x.axiom(2, 0, 1 + i % 8);
+        }
+        x.axiom(2, 9, 9);
+        CHECK.due("none of 16", x.broken(), QlRewrite.BAD);
+        x.fact(false, 9, 0, 0);
+        CHECK.due("the last of 16", x.broken(), 15);
     }
 
     private static void questionsStay() {

@@ -13,8 +13,10 @@ public final class FormsTest {
         orderOfComing();
         meets();
         answersMeet();
+        rewrittenAfterAnswersMet();
         answersInNoAtom();
         laterAxiomsAndAtoms();
+        mostOfAll();
         mostForms();
         wrongInputs();
         CHECK.end();
@@ -101,7 +103,6 @@ public final class FormsTest {
         x.atom(2, true, 1, 3, 4);
         x.atom(2, true, 2, 4, 3);
         CHECK.form(x, 2, 0, 0, 1, r(0, 0, 1), r(1, 2, 3), r(2, 3, 2));
-        // r(2, 2) and r(2, 3) come before r(2, 3) and r(3, 3).
         x.question(0);
         x.atom(3, true, 0, 2, 5);
         x.atom(3, true, 0, 5, 5);
@@ -110,7 +111,14 @@ public final class FormsTest {
         x.atom(4, true, 0, 2, 5);
         x.atom(4, true, 0, 5, 5);
         x.atom(4, true, 1, 5, 2);
+        // r(2, 2) and r(3, 2) come before r(2, 3) and r(3, 3).
         CHECK.form(x, 4, 0, -1, -1, r(0, 2, 2), r(0, 3, 2), r(1, 2, 3));
+        x.question(0);
+        x.atom(5, true, 3, 0, 1);
+        x.atom(5, true, 2, 2, 3);
+        x.atom(5, true, 0, 1, 0);
+        x.atom(5, true, 1, 3, 2);
+        CHECK.form(x, 5, 0, -1, -1, r(0, 2, 3), r(1, 4, 5), r(2, 5, 4), r(3, 3, 2));
     }
 
     private static void sortsFit() {
@@ -294,6 +302,7 @@ public final class FormsTest {
         x.atom(1, false, 0, 5, 0);
         // 1 is 0, then 2 is 0.
         CHECK.due("answers and another", x.forms(1), 2);
+        CHECK.form(x, 1, 0, 0, 1, c(0, 2), r(0, 0, 1), r(0, 1, 2));
         CHECK.form(x, 1, 1, 0, 0, c(0, 0), r(0, 0, 0));
         x.question(1);
         x.atom(2, false, 3, 0, 0);
@@ -301,6 +310,21 @@ public final class FormsTest {
         x.atom(2, true, 3, 1, 1);
         CHECK.form(x, 2, 0, 0, -1, c(3, 0), c(3, 2), r(3, 2, 2));
         CHECK.form(x, 2, 1, 0, -1, c(3, 0), r(3, 0, 0));
+    }
+
+    /** Both answers stay one in all that comes of such a form. */
+    private static void rewrittenAfterAnswersMet() {
+        QlRewrite x = new QlRewrite();
+        x.question(2);
+        x.atom(0, true, 0, 0, 2);
+        x.atom(0, true, 0, 1, 2);
+        x.axiom(0, 5, 20);
+        x.axiom(0, 6, 5);
+        CHECK.due("forms", x.forms(0), 4);
+        CHECK.form(x, 0, 0, 0, 1, r(0, 0, 2), r(0, 1, 2));
+        CHECK.form(x, 0, 1, 0, 0, r(0, 0, ANY));
+        CHECK.form(x, 0, 2, 0, 0, c(5, 0));
+        CHECK.form(x, 0, 3, 0, 0, c(6, 0));
     }
 
     private static void answersInNoAtom() {
@@ -354,6 +378,32 @@ public final class FormsTest {
         x.atom(0, false, 3, 0, 0);
         x.atom(0, false, 8, 0, 0);
         return x;
+    }
+
+    /** Four atoms, sixteen axioms, six questions: all that there can be at once. */
+    private static void mostOfAll() {
+        QlRewrite x = new QlRewrite();
+        for (int i = 0; i < 6; i++) {
+            x.question(2);
+            x.atom(i, true, 7, 0, 2);
+            x.atom(i, true, 6, 2, 3);
+            x.atom(i, true, 5, 3, 1);
+            x.atom(i, false, 9, 3, 0);
+        }
+        for (int i = 0; i < 15; i++) {
+            x.axiom(0, 0, 1);
+        }
+        for (int i = 0; i < 6; i++) {
+            CHECK.due("before", x.forms(i), 1);
+        }
+        x.axiom(0, 8, 9);
+        for (int i = 0; i < 6; i++) {
+            CHECK.due("forms", x.forms(i), 2);
+            CHECK.form(x, i, 0, 0, 1, c(9, 2), r(5, 2, 1), r(6, 3, 2), r(7, 0, 3));
+            CHECK.form(x, i, 1, 0, 1, c(8, 2), r(5, 2, 1), r(6, 3, 2), r(7, 0, 3));
+            CHECK.due("run", x.run(i), 0);
+        }
+        CHECK.due("broken", x.broken(), QlRewrite.BAD);
     }
 
     private static void mostForms() {

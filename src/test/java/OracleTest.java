@@ -32,6 +32,7 @@ public final class OracleTest {
 
     public static void main(String[] args) {
         int runs = args.length > 0 ? Integer.parseInt(args[0]) : 1500;
+        allOrders();
         for (int run = 0; run < runs && !CHECK.failed(); run++) {
             new OracleTest(run).play();
         }
@@ -39,6 +40,41 @@ public final class OracleTest {
             + " times, too large for it " + brokenLarge + " times");
         CHECK.due("all kinds were seen", large > 20 && brokenLarge > 20 && broken > 20 && answered > 100 ? 1 : 0, 1);
         CHECK.end();
+    }
+
+    /** Circles of three and four, their atoms told in all orders and turned in all ways. */
+    private static void allOrders() {
+        for (int size = 3; size <= 4; size++) {
+            for (int order = 0; order < 256; order++) {
+                int seen = 0;
+                for (int i = 0; i < size; i++) {
+                    seen |= 1 << (order >> 2 * i & 3);
+                }
+                if (seen == (1 << size) - 1 && order < 1 << 2 * size) {
+                    for (int turns = 0; turns < 1 << size; turns++) {
+                        circle(size, order, turns);
+                    }
+                }
+            }
+        }
+    }
+
+    private static void circle(int size, int order, int turns) {
+        QlRewrite x = new QlRewrite();
+        Oracle o = new Oracle();
+        x.question(0);
+        o.question(0);
+        for (int i = 0; i < size; i++) {
+            int name = order >> 2 * i & 3;
+            int next = (name + 1) % size;
+            boolean turned = (turns >> name & 1) != 0;
+            x.atom(0, true, name, turned ? next : name, turned ? name : next);
+            o.atom(0, true, name, turned ? next : name, turned ? name : next);
+        }
+        for (int what = 0; what <= 6; what++) {
+            String call = "circle of " + size + ", order " + order + ", turns " + turns + ": form(0, 0, " + what + ")";
+            CHECK.due(call, x.form(0, 0, what), o.form(0, 0, what));
+        }
     }
 
     private void play() {
