@@ -19,31 +19,21 @@ public final class AnswersTest {
         CHECK.end();
     }
 
-    /** The question has these answers, in this order, and no more. */
-    private static void answers(QlRewrite x, int question, int... numbers) {
-        CHECK.due("run(" + question + ")", x.run(question), numbers.length);
-        for (int i = 0; i < numbers.length; i++) {
-            CHECK.due("answer(" + question + ", " + i + ")", x.answer(question, i), numbers[i]);
-        }
-        CHECK.due("answer past the last", x.answer(question, numbers.length), QlRewrite.BAD);
-        CHECK.due("answer before the first", x.answer(question, -1), QlRewrite.BAD);
-    }
-
     private static void withoutAnswers() {
         QlRewrite x = new QlRewrite();
         x.axiom(0, 1, 0);
         x.question(0);
         x.atom(0, false, 0, 3, 0);
-        answers(x, 0);
+        CHECK.answers(x, 0);
         CHECK.due("why of nothing", x.why(0, 0), QlRewrite.BAD);
         x.fact(false, 1, 5, 0);
         x.fact(false, 1, 6, 0);
-        answers(x, 0, 0);
+        CHECK.answers(x, 0, 0);
         CHECK.due("why by the axiom", x.why(0, 0), 1);
         CHECK.due("why of no such number", x.why(0, 5), QlRewrite.BAD);
         CHECK.due("why of a thing", x.why(0, 16 * 5), QlRewrite.BAD);
         x.fact(false, 0, 7, 0);
-        answers(x, 0, 0);
+        CHECK.answers(x, 0, 0);
         CHECK.due("why by itself", x.why(0, 0), 0);
     }
 
@@ -56,7 +46,7 @@ public final class AnswersTest {
         x.fact(true, 0, 3, 0);
         x.fact(true, 0, 11, 7);
         x.fact(true, 0, 4, 11);
-        answers(x, 0, 0, 16 * 7, 16 * 11);
+        CHECK.answers(x, 0, 0, 16 * 7, 16 * 11);
         CHECK.due("why 0", x.why(0, 0), 1);
         CHECK.due("why 7", x.why(0, 16 * 7), 1);
         CHECK.due("why 11", x.why(0, 16 * 11), 0);
@@ -74,13 +64,13 @@ public final class AnswersTest {
         x.fact(true, 2, 1, 3);
         x.fact(true, 2, 0, 0);
         x.fact(true, 2, 2, 3);
-        answers(x, 0, 0, 16 * 3 + 1, 16 * 3 + 2, 16 * 3 + 11);
+        CHECK.answers(x, 0, 0, 16 * 3 + 1, 16 * 3 + 2, 16 * 3 + 11);
         CHECK.due("why 3 1", x.why(0, 49), 1);
         CHECK.due("why 3 2", x.why(0, 50), 0);
         CHECK.due("why 1 3", x.why(0, 19), QlRewrite.BAD);
         x.question(2);
         x.atom(1, true, 0, 1, 0);
-        answers(x, 1, 0, 16 + 3, 32 + 3, 16 * 11 + 3);
+        CHECK.answers(x, 1, 0, 16 + 3, 32 + 3, 16 * 11 + 3);
     }
 
     private static void joinedAnswers() {
@@ -94,7 +84,7 @@ public final class AnswersTest {
         x.fact(false, 1, 9, 0);
         x.fact(true, 0, 2, 8);
         x.fact(true, 0, 3, 8);
-        answers(x, 0, 16 * 2 + 2, 16 * 2 + 3, 16 * 3 + 2, 16 * 3 + 3, 16 * 4 + 4, 16 * 9 + 9);
+        CHECK.answers(x, 0, 16 * 2 + 2, 16 * 2 + 3, 16 * 3 + 2, 16 * 3 + 3, 16 * 4 + 4, 16 * 9 + 9);
         CHECK.due("forms", x.forms(0), 3);
         CHECK.due("why 2 3", x.why(0, 35), 0);
         CHECK.due("why 4 4", x.why(0, 68), 2);
@@ -106,17 +96,17 @@ public final class AnswersTest {
         x.fact(false, 0, 0, 0);
         x.question(1);
         x.atom(0, false, 0, 1, 0);
-        answers(x, 0);
+        CHECK.answers(x, 0);
         x.question(2);
         x.atom(1, false, 0, 0, 0);
-        answers(x, 1);
+        CHECK.answers(x, 1);
         x.question(2);
         x.atom(2, false, 0, 1, 0);
-        answers(x, 2);
+        CHECK.answers(x, 2);
         CHECK.due("why", x.why(2, 0), QlRewrite.BAD);
         x.question(2);
         x.atom(3, false, 0, 2, 0);
-        answers(x, 3);
+        CHECK.answers(x, 3);
     }
 
     private static void anyAtEachPlace() {
@@ -128,13 +118,13 @@ public final class AnswersTest {
         x.atom(0, false, 4, 6, 0);
         x.fact(true, 1, 1, 2);
         x.fact(true, 2, 3, 1);
-        answers(x, 0);
+        CHECK.answers(x, 0);
         x.fact(true, 3, 9, 10);
-        answers(x, 0);
+        CHECK.answers(x, 0);
         x.fact(false, 4, 8, 0);
-        answers(x, 0, 16);
+        CHECK.answers(x, 0, 16);
         x.forget(true, 3, 9, 10);
-        answers(x, 0);
+        CHECK.answers(x, 0);
     }
 
     private static void joins() {
@@ -150,21 +140,21 @@ public final class AnswersTest {
         x.fact(true, 1, 2, 4);
         x.fact(true, 2, 3, 5);
         x.fact(true, 2, 4, 6);
-        answers(x, 0);
+        CHECK.answers(x, 0);
         x.fact(true, 3, 4, 4);
         x.fact(true, 3, 3, 4);
-        answers(x, 0, 6);
+        CHECK.answers(x, 0, 6);
         x.fact(true, 3, 3, 3);
-        answers(x, 0, 5, 6);
+        CHECK.answers(x, 0, 5, 6);
         x.question(0);
         x.atom(1, true, 4, 2, 3);
         x.atom(1, true, 4, 3, 4);
         x.atom(1, true, 4, 4, 2);
         x.fact(true, 4, 7, 8);
         x.fact(true, 4, 8, 9);
-        answers(x, 1);
+        CHECK.answers(x, 1);
         x.fact(true, 4, 9, 7);
-        answers(x, 1, 0);
+        CHECK.answers(x, 1, 0);
         CHECK.due("a circle of three", x.why(1, 0), 0);
     }
 
@@ -177,14 +167,14 @@ public final class AnswersTest {
         for (int i = 0; i < 11; i++) {
             x.fact(true, 7, i, i + 1);
         }
-        answers(x, 0);
-        answers(x, 1);
+        CHECK.answers(x, 0);
+        CHECK.answers(x, 1);
         x.fact(true, 7, 0, 0);
         x.fact(true, 7, 11, 11);
-        answers(x, 0, 0, 16 * 11);
-        answers(x, 1, 0);
+        CHECK.answers(x, 0, 0, 16 * 11);
+        CHECK.answers(x, 1, 0);
         x.forget(true, 7, 0, 0);
-        answers(x, 0, 16 * 11);
+        CHECK.answers(x, 0, 16 * 11);
         CHECK.due("0 still leads to 1", x.forget(true, 7, 0, 1), 1);
     }
 
@@ -216,7 +206,7 @@ public final class AnswersTest {
         x.atom(0, false, 1, 2, 0);
         x.fact(false, 0, 6, 0);
         // Class 1 of the target is what leads there, and this is the role itself.
-        answers(x, 0, 16 * 6);
+        CHECK.answers(x, 0, 16 * 6);
         CHECK.due("forms", x.forms(0), 4);
         CHECK.due("why", x.why(0, 96), 3);
     }
@@ -225,23 +215,23 @@ public final class AnswersTest {
         QlRewrite x = new QlRewrite();
         x.question(1);
         x.atom(0, true, 5, 0, 1);
-        answers(x, 0);
+        CHECK.answers(x, 0);
         x.fact(true, 5, 1, 2);
-        answers(x, 0, 16);
+        CHECK.answers(x, 0, 16);
         x.fact(true, 5, 1, 3);
-        answers(x, 0, 16);
+        CHECK.answers(x, 0, 16);
         x.forget(true, 5, 1, 2);
-        answers(x, 0, 16);
+        CHECK.answers(x, 0, 16);
         x.forget(true, 5, 1, 3);
-        answers(x, 0);
+        CHECK.answers(x, 0);
         x.fact(false, 5, 4, 0);
-        answers(x, 0);
+        CHECK.answers(x, 0);
         x.axiom(0, 5, 30);
-        answers(x, 0, 64);
+        CHECK.answers(x, 0, 64);
         x.atom(0, false, 6, 0, 0);
-        answers(x, 0);
+        CHECK.answers(x, 0);
         x.fact(false, 6, 4, 0);
-        answers(x, 0, 64);
+        CHECK.answers(x, 0, 64);
     }
 
     private static void allThings() {
