@@ -494,8 +494,7 @@ public final class QlRewrite {
         }
 
         /** Leaves one of equal atoms; in which order they stand counts for nothing here. */
-        boolean dropEqual() {
-            int were = size;
+        void dropEqual() {
             for (int i = 0; i < size; i++) {
                 for (int k = size - 1; k > i; k--) {
                     if (names[i] == names[k] && places[2 * i] == places[2 * k]
@@ -507,7 +506,6 @@ public final class QlRewrite {
                     }
                 }
             }
-            return size < were;
         }
 
         boolean holds(int name, int first, int second) {
@@ -567,8 +565,8 @@ public final class QlRewrite {
             3, 0, 1, 2,  3, 1, 0, 2,  3, 0, 2, 1,  3, 2, 0, 1,  3, 1, 2, 0,  3, 2, 1, 0,
         };
         private static final int[] ORDERS_OF = {1, 1, 2, 6, 24};
-        /** Each round but the last drops an atom or makes a place ANY. */
-        private static final int MOST_ROUNDS = 3 * MOST_ATOMS + 1;
+        /** Each round but the last makes a place ANY. */
+        private static final int MOST_ROUNDS = 2 * MOST_ATOMS + 1;
 
         private final int[] named = new int[ALL_VARIABLES];
         private final int[] others = new int[MOST_ATOMS];
@@ -583,8 +581,8 @@ public final class QlRewrite {
         long leastRow(Form form) {
             boolean changed = true;
             for (int round = 0; changed && round < MOST_ROUNDS; round++) {
-                boolean dropped = form.dropEqual();
-                changed = freeSingle(form) || dropped;
+                form.dropEqual();
+                changed = freeSingle(form);
             }
             int size = gatherOthers(form);
             long least = 0;

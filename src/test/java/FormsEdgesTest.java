@@ -1,3 +1,6 @@
+import java.util.ArrayList;
+import java.util.List;
+
 /**
  * Promises 7 and 8, and what "Terms" says of forms: a test for each sentence that names a boundary
  * case. A remark at the head of a test says which promise and which sentence it is.
@@ -28,10 +31,12 @@ public final class FormsEdgesTest {
         tillNothingChanges();
         mostNames();
         leastPlaceByPlace();
+        allWaysToName();
         noFormsYet();
         fitsWithAnyAlone();
         turnedWhenJustOne();
         meetingOfAny();
+        meetingBehindOthers();
         meetingInOrder();
         CHECK.end();
     }
@@ -47,6 +52,19 @@ public final class FormsEdgesTest {
     /** The classes 0 .. 9, then HAS 0, HAS 1, .. */
     private static int sort(int i) {
         return i < 10 ? i : 2 * i;
+    }
+
+    /** All orders of 0 .. 3. */
+    private static List<int[]> orders() {
+        List<int[]> all = new ArrayList<>();
+        for (int i = 0; i < 256; i++) {
+            int[] order = {i >> 6, i >> 4 & 3, i >> 2 & 3, i & 3};
+            if ((1 << order[0] | 1 << order[1] | 1 << order[2] | 1 << order[3]) == 15) {
+                all.add(order);
+            }
+        }
+        CHECK.due("orders of four", all.size(), 24);
+        return all;
     }
 
     /** Each sort of first .. last but the first one is of the one before it. */
@@ -401,6 +419,16 @@ public final class FormsEdgesTest {
         x.atom(3, false, 5, 0, 0);
         CHECK.due("forms", x.forms(3), 2);
         CHECK.form(x, 3, 1, 0, -1, c(5, 0));
+        // Whichever two of four are equal, the other two stay.
+        int[][] told = {{0, 4}, {0, 5}, {1, 0}, {7, 1}};
+        for (int[] order : orders()) {
+            QlRewrite y = new QlRewrite();
+            y.question(2);
+            for (int i : order) {
+                y.atom(0, true, 0, told[i][0], told[i][1]);
+            }
+            CHECK.form(y, 0, 0, 0, 1, r(0, 0, ANY), r(0, 1, 0), r(0, ANY, 1));
+        }
     }
 
     private static void standsJustOnce() {
@@ -509,6 +537,25 @@ public final class FormsEdgesTest {
         x.atom(3, true, 0, 5, 4);
         x.atom(3, true, 0, 4, 5);
         CHECK.form(x, 3, 0, -1, -1, r(0, 2, 2), r(0, 2, 3), r(0, 3, 2));
+    }
+
+    /** Each variable has an atom of its own, so that each order of telling needs another naming. */
+    private static void allWaysToName() {
+        CHECK.sentence("Terms", "all ways to name them are looked at");
+        for (int[] order : orders()) {
+            QlRewrite x = new QlRewrite();
+            x.question(0);
+            x.question(1);
+            x.question(2);
+            for (int i : order) {
+                x.atom(0, true, i, 7 - i, 7 - i);
+                x.atom(1, true, i, i == 3 ? 0 : 7 - i, i == 3 ? 0 : 7 - i);
+                x.atom(2, true, i, i >= 2 ? i - 2 : 7 - i, i >= 2 ? i - 2 : 7 - i);
+            }
+            CHECK.form(x, 0, 0, -1, -1, r(0, 2, 2), r(1, 3, 3), r(2, 4, 4), r(3, 5, 5));
+            CHECK.form(x, 1, 0, 0, -1, r(0, 2, 2), r(1, 3, 3), r(2, 4, 4), r(3, 0, 0));
+            CHECK.form(x, 2, 0, 0, 1, r(0, 2, 2), r(1, 3, 3), r(2, 0, 0), r(3, 1, 1));
+        }
     }
 
     private static void noFormsYet() {
@@ -625,6 +672,34 @@ public final class FormsEdgesTest {
         x.atom(5, true, 7, 2, 3);
         x.atom(5, false, 7, 4, 0);
         CHECK.due("a class and a role", x.forms(5), 1);
+    }
+
+    private static void meetingBehindOthers() {
+        CHECK.sentence("Terms", "ANY is what the other one has there");
+        QlRewrite x = new QlRewrite();
+        x.question(2);
+        x.atom(0, false, 3, 1, 0);
+        x.atom(0, true, 7, 0, 5);
+        x.atom(0, true, 7, 1, 0);
+        CHECK.due("the second and the third", x.forms(0), 2);
+        CHECK.form(x, 0, 0, 0, 1, c(3, 1), r(7, 0, ANY), r(7, 1, 0));
+        CHECK.form(x, 0, 1, 0, 0, c(3, 0), r(7, 0, 0));
+        x.question(2);
+        x.atom(1, false, 3, 0, 0);
+        x.atom(1, false, 4, 0, 0);
+        x.atom(1, true, 7, 0, 5);
+        x.atom(1, true, 7, 0, 1);
+        CHECK.due("the third and the fourth", x.forms(1), 2);
+        CHECK.form(x, 1, 0, 0, 1, c(3, 0), c(4, 0), r(7, 0, 1), r(7, 0, ANY));
+        CHECK.form(x, 1, 1, 0, 1, c(3, 0), c(4, 0), r(7, 0, 1));
+        x.question(2);
+        x.atom(2, false, 3, 0, 0);
+        x.atom(2, true, 6, 1, 1);
+        x.atom(2, true, 7, 0, 5);
+        x.atom(2, true, 7, 1, 1);
+        CHECK.due("the higher code has a variable there", x.forms(2), 2);
+        CHECK.form(x, 2, 0, 0, 1, c(3, 0), r(6, 1, 1), r(7, 0, ANY), r(7, 1, 1));
+        CHECK.form(x, 2, 1, 0, 0, c(3, 0), r(6, 0, 0), r(7, 0, 0));
     }
 
     private static void meetingInOrder() {
