@@ -715,7 +715,8 @@ public final class QlRewrite {
             q.large = false;
             next.copy(q.own);
             comes(q, namer.leastRow(next));
-            for (int i = 0; i < q.size && !q.large; i++) {
+            // The forms grow as they are read, so that their own number is no end to be seen here.
+            for (int i = 0; i < MOST_FORMS && i < q.size && !q.large; i++) {
                 form.read(q.rows[i]);
                 replaceAtoms(q);
                 uniteAtoms(q);

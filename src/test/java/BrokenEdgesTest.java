@@ -18,6 +18,7 @@ public final class BrokenEdgesTest {
         sameTwice();
         byOneOfItsForms();
         ninetyFormsAreNotTooLarge();
+        mostFormsOfTwoWays();
         tooLargeAlone();
         tooLargeBefore();
         tooLargeAfter();
@@ -243,6 +244,40 @@ public final class BrokenEdgesTest {
         CHECK.due("90 forms, the last classes", x.broken(), 0);
         x.axiom(0, 8, 6);
         CHECK.due("13 more forms", x.broken(), LARGE);
+    }
+
+    /**
+     * Two ways have at most 64 pairs of atoms, 8 roles to themselves, 8 roles and 10 classes of ANY
+     * alone: 90 forms, so that an axiom of kind 3 is never too large. 16 axioms bring 87 of them.
+     */
+    private static void mostFormsOfTwoWays() {
+        CHECK.sentence("Terms", "(x to y is of WAY a and of WAY b) finds something by one of its forms");
+        QlRewrite x = new QlRewrite();
+        x.axiom(3, 0, 1);
+        x.axiom(1, 0, 1);
+        for (int role = 1; role < 8; role++) {
+            x.axiom(1, 2 * role, 0);
+        }
+        for (int i = 0; i < 7; i++) {
+            x.axiom(0, i, 34);
+        }
+        CHECK.due("no room for more", x.axiom(0, 7, 34), FULL);
+        x.question(0);
+        x.atom(0, true, 0, 0, 1);
+        x.atom(0, true, 0, 1, 0);
+        CHECK.due("64 pairs, 8 to themselves, 8 roles, 7 classes", x.forms(0), 87);
+        CHECK.due("no facts", x.broken(), BAD);
+        for (int i = 0; i < 10; i++) {
+            x.fact(false, i, 11, 0);
+            CHECK.due("class " + i, x.broken(), i < 7 ? 0 : BAD);
+            x.forget(false, i, 11, 0);
+        }
+        for (int role = 0; role < 8; role++) {
+            x.fact(true, role, 0, 11);
+            CHECK.due("role " + role, x.broken(), 0);
+            x.forget(true, role, 0, 11);
+        }
+        CHECK.due("no facts again", x.broken(), BAD);
     }
 
     private static void tooLargeAlone() {
